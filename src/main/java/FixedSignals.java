@@ -189,11 +189,8 @@ public final class FixedSignals {
         return value < 0 ? -value : value;
     }
 
+    /** For one bit or more: no caller rounds by none. */
     private static long rounded(long value, int bits) {
-        // There is no half of a bit to add for no bits at all.
-        if (bits == 0) {
-            return value;
-        }
         return (value + (1L << (bits - 1))) >> bits;
     }
 

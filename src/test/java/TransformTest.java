@@ -95,6 +95,11 @@ public final class TransformTest {
         dueTransform(whole, 1, false, 2);
         duePlace(whole, 0, -BIG, BIG);
         duePlace(whole, 1, -BIG, BIG);
+        FixedSignals swapped = new FixedSignals();
+        swapped.put(1, Integer.MAX_VALUE, Integer.MIN_VALUE);
+        dueTransform(swapped, 1, false, 2);
+        duePlace(swapped, 0, BIG, -BIG);
+        duePlace(swapped, 1, -BIG, BIG);
     }
 
     private static void onlyTheFirstPlaces() {
