@@ -6,20 +6,24 @@ final class Check {
 
     private int wrong;
     private int made;
+    private String words = "";
+
+    /** The document's words that the checks from here on hold the class to; told with each wrong answer. */
+    void sentence(String said) {
+        words = " [" + said + "]";
+    }
 
     void due(String call, long got, long want) {
         made++;
         if (got != want) {
-            wrong++;
-            System.out.println(call + " answered " + got + ", due is " + want);
+            tellWrong(call + " answered " + got + ", due is " + want);
         }
     }
 
     void near(String call, double got, double want, double room) {
         made++;
         if (!(Math.abs(got - want) <= room)) {
-            wrong++;
-            System.out.println(call + " answered " + got + ", due is about " + want);
+            tellWrong(call + " answered " + got + ", due is about " + want);
         }
     }
 
@@ -30,16 +34,19 @@ final class Check {
         } catch (IllegalArgumentException e) {
             return;
         }
-        wrong++;
-        System.out.println(call + " threw nothing, due is IllegalArgumentException");
+        tellWrong(call + " threw nothing, due is IllegalArgumentException");
     }
 
     void holds(String what, boolean isSo) {
         made++;
         if (!isSo) {
-            wrong++;
-            System.out.println("not so: " + what);
+            tellWrong("not so: " + what);
         }
+    }
+
+    private void tellWrong(String what) {
+        wrong++;
+        System.out.println(what + words);
     }
 
     void end() {
