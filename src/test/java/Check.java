@@ -31,7 +31,10 @@ final class Check {
         made++;
         try {
             refused.make();
-        } catch (IllegalArgumentException e) {
+        } catch (RuntimeException e) {
+            if (e.getClass() != IllegalArgumentException.class) {
+                tellWrong(call + " threw " + e.getClass().getName() + ", due is IllegalArgumentException");
+            }
             return;
         }
         tellWrong(call + " threw nothing, due is IllegalArgumentException");

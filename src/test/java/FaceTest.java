@@ -5,24 +5,38 @@ import java.lang.reflect.Modifier;
 import java.util.Set;
 import java.util.TreeSet;
 
-/** The public face, and rules 1 and 5 of LANGUAGE.md as far as they can be seen from outside. */
+/** "The public face", line by line, and rules 1 and 5 of LANGUAGE.md as far as they can be seen from outside. */
 public final class FaceTest {
     private static final Set<String> FACE = Set.of(
-        "int work(int, int, int)", "int small(int, int, int)", "int narrow(int)", "void tap(int, int)",
-        "int filter(int)", "void stage(int, int, int)", "int chain(int)", "void calm()", "void put(int, int, int)",
-        "int transform(int, boolean)", "int get(int, boolean)", "int wave(int, boolean)", "int angle(int, int)",
-        "int length(int, int)");
+        "public int work(int, int, int) throws IllegalArgumentException",
+        "public int small(int, int, int) throws IllegalArgumentException",
+        "public int narrow(int)",
+        "public void tap(int, int) throws IllegalArgumentException",
+        "public int filter(int) throws IllegalArgumentException",
+        "public void stage(int, int, int) throws IllegalArgumentException",
+        "public int chain(int) throws IllegalArgumentException",
+        "public void calm()",
+        "public void put(int, int, int) throws IllegalArgumentException",
+        "public int transform(int, boolean) throws IllegalArgumentException",
+        "public int get(int, boolean) throws IllegalArgumentException",
+        "public int wave(int, boolean)",
+        "public int angle(int, int) throws IllegalArgumentException",
+        "public int length(int, int) throws IllegalArgumentException");
 
     public static void main(String[] args) {
         Check check = new Check();
         check.holds("the class is public and final",
-            Modifier.isPublic(FixedSignals.class.getModifiers()) && Modifier.isFinal(FixedSignals.class.getModifiers()));
+            FixedSignals.class.getModifiers() == (Modifier.PUBLIC | Modifier.FINAL));
+        check.holds("it has no package", FixedSignals.class.getPackageName().isEmpty());
+        check.holds("it is a kind of nothing else",
+            FixedSignals.class.getSuperclass() == Object.class && FixedSignals.class.getInterfaces().length == 0);
         methods(check);
         constructors(check);
         fields(check, FixedSignals.class);
         for (Class<?> inside : FixedSignals.class.getDeclaredClasses()) {
             check.holds(inside + " is static and not public",
-                Modifier.isStatic(inside.getModifiers()) && !Modifier.isPublic(inside.getModifiers()));
+                Modifier.isStatic(inside.getModifiers()) && !Modifier.isPublic(inside.getModifiers())
+                    && !Modifier.isProtected(inside.getModifiers()));
             fields(check, inside);
         }
         check.end();
@@ -47,20 +61,25 @@ public final class FaceTest {
     }
 
     private static String told(Method method) {
-        StringBuilder text = new StringBuilder(method.getReturnType() + " " + method.getName() + "(");
+        StringBuilder text = new StringBuilder(Modifier.toString(method.getModifiers()));
+        text.append(" ").append(method.getReturnType()).append(" ").append(method.getName()).append("(");
         String join = "";
         for (Class<?> type : method.getParameterTypes()) {
             text.append(join).append(type);
             join = ", ";
         }
-        return text.append(")").toString();
+        text.append(")");
+        for (Class<?> thrown : method.getExceptionTypes()) {
+            text.append(" throws ").append(thrown.getSimpleName());
+        }
+        return text.toString();
     }
 
     private static void constructors(Check check) {
         Constructor<?>[] all = FixedSignals.class.getDeclaredConstructors();
         check.due("the number of constructors", all.length, 1);
-        check.holds("it is public and takes nothing",
-            Modifier.isPublic(all[0].getModifiers()) && all[0].getParameterCount() == 0);
+        check.holds("it is public, takes nothing and throws nothing", Modifier.isPublic(all[0].getModifiers())
+            && all[0].getParameterCount() == 0 && all[0].getExceptionTypes().length == 0);
     }
 
     private static void fields(Check check, Class<?> owner) {

@@ -1,12 +1,18 @@
 import java.util.Random;
 
-/** All promises at once: runs of 512 calls, wrong ones among them, against the model. */
+/** All promises at once: runs of 512 calls on one object, wrong calls among them, against the model. */
 public final class LongRunsTest {
+    private static final int CALLS = 512;
     private static final long REFUSED = Long.MAX_VALUE;
     private static final int[] EDGES = {
         Integer.MIN_VALUE, Integer.MAX_VALUE, 0, 1, -1, 32767, 32768, -32768, -32769, 1 << 29, -(1 << 29),
         (1 << 29) + 1, -(1 << 29) - 1, (1 << 29) - 1, 1 << 30, -(1 << 30), 16384, 8192
     };
+
+    /** The methods in the order of the face. */
+    enum Kind {
+        WORK, SMALL, NARROW, TAP, FILTER, STAGE, CHAIN, CALM, PUT, TRANSFORM, GET, WAVE, ANGLE, LENGTH
+    }
 
     interface Answer {
         long ask();
@@ -19,14 +25,81 @@ public final class LongRunsTest {
 
     public static void main(String[] args) {
         LongRunsTest test = new LongRunsTest();
-        for (int run = 0; run < 400; run++) {
-            test.signals = new FixedSignals();
-            test.model = new Model();
-            for (int i = 0; i < 512; i++) {
-                test.oneCall(test.numbers.nextInt(15));
-            }
+        for (int run = 0; run < 150; run++) {
+            test.mixedRun(run);
+            test.runInTurn(run);
+            test.tapFilterRun(run);
+            test.stagesRun(run);
+            test.blockRun(run);
         }
         test.check.end();
+    }
+
+    private void begin() {
+        signals = new FixedSignals();
+        model = new Model();
+    }
+
+    private void mixedRun(int run) {
+        begin();
+        for (int call = 1; call <= CALLS; call++) {
+            check.sentence("mixed run " + run + ", call " + call);
+            Kind kind = anyOf(Kind.values());
+            oneCall(kind == Kind.CALM && !oneIn(5) ? Kind.FILTER : kind);
+        }
+    }
+
+    private void runInTurn(int run) {
+        begin();
+        Kind[] kinds = Kind.values();
+        for (int call = 1; call <= CALLS; call++) {
+            check.sentence("run " + run + " of all methods in turn, call " + call);
+            Kind kind = kinds[(call + run) % kinds.length];
+            int round = call / kinds.length;
+            // To be calm in each round would leave nothing of before to be looked at.
+            oneCall(kind == Kind.CALM && round % 8 != 7 ? Kind.CHAIN : kind);
+        }
+    }
+
+    private void tapFilterRun(int run) {
+        begin();
+        for (int call = 1; call <= CALLS; call++) {
+            check.sentence("run " + run + " of the TAP FILTER, call " + call);
+            boolean isTold = call <= 16 || oneIn(4);
+            oneCall(isTold ? Kind.TAP : oneIn(60) ? Kind.CALM : Kind.FILTER);
+        }
+    }
+
+    private void stagesRun(int run) {
+        begin();
+        for (int call = 1; call <= CALLS; call++) {
+            check.sentence("run " + run + " of the STAGES, call " + call);
+            boolean isTold = call <= 20 || oneIn(4);
+            oneCall(isTold ? Kind.STAGE : oneIn(60) ? Kind.CALM : Kind.CHAIN);
+        }
+    }
+
+    /** The block is filled, then used, and looked at as a whole behind the last of it. */
+    private void blockRun(int run) {
+        begin();
+        for (int call = 1; call <= CALLS; call++) {
+            check.sentence("run " + run + " of THE BLOCK, call " + call);
+            if (call <= 32) {
+                putAndModel(call - 1, numbers.nextInt() >> run % 30, numbers.nextInt() >> run % 30);
+            } else if (call > CALLS - 64) {
+                getAndModel((CALLS - call) / 2, call % 2 == 0);
+            } else {
+                oneCall(oneIn(4) ? Kind.TRANSFORM : oneIn(6) ? Kind.PUT : Kind.GET);
+            }
+        }
+    }
+
+    private boolean oneIn(int count) {
+        return numbers.nextInt(count) == 0;
+    }
+
+    private Kind anyOf(Kind[] kinds) {
+        return kinds[numbers.nextInt(kinds.length)];
     }
 
     private static long answer(Answer asked) {
@@ -38,42 +111,44 @@ public final class LongRunsTest {
     }
 
     private int index(int count) {
-        return numbers.nextInt(20) == 0 ? numbers.nextInt(3 * count) - count : numbers.nextInt(count);
+        return oneIn(20) ? numbers.nextInt(3 * count) - count : numbers.nextInt(count);
     }
 
     private int any() {
-        return numbers.nextInt(4) == 0 ? EDGES[numbers.nextInt(EDGES.length)] : numbers.nextInt() >> numbers.nextInt(32);
+        return oneIn(4) ? EDGES[numbers.nextInt(EDGES.length)] : numbers.nextInt() >> numbers.nextInt(32);
     }
 
     private int shortOne() {
-        return numbers.nextInt(20) == 0 ? any() : (short) any();
+        return oneIn(20) ? any() : (short) any();
     }
 
     private int coordinate() {
-        return numbers.nextInt(20) == 0 ? any() : any() >> 2;
+        return oneIn(20) ? any() : any() >> 2;
     }
 
     private void same(String call, Answer got, Answer want) {
         check.due(call, answer(got), answer(want));
     }
 
-    private void oneCall(int kind) {
-        if (kind < 5) {
-            numberCall(kind);
-        } else if (kind < 9) {
-            filterCall(kind);
-        } else {
-            blockOrAngleCall(kind);
+    private void oneCall(Kind kind) {
+        switch (kind) {
+            case WORK, SMALL, NARROW -> numberCall(kind);
+            case TAP, FILTER, STAGE, CHAIN, CALM -> filterCall(kind);
+            case PUT -> putAndModel(index(32), any(), any());
+            case TRANSFORM -> transformAndModel(index(6), numbers.nextBoolean());
+            case GET -> getAndModel(index(32), numbers.nextBoolean());
+            default -> angleCall(kind);
         }
     }
 
-    private void numberCall(int kind) {
+    private void numberCall(Kind kind) {
         int way = index(6);
-        int a = kind < 2 ? any() : shortOne();
-        int b = way == 3 ? index(40) - 20 : kind < 2 ? any() : shortOne();
-        if (kind < 2) {
+        boolean isLong = kind == Kind.WORK;
+        int a = isLong ? any() : shortOne();
+        int b = way == 3 ? numbers.nextInt(isLong ? 66 : 34) - (isLong ? 33 : 17) : isLong ? any() : shortOne();
+        if (isLong) {
             same("work(" + way + ", " + a + ", " + b + ")", () -> signals.work(way, a, b), () -> model.work(way, a, b));
-        } else if (kind < 4) {
+        } else if (kind == Kind.SMALL) {
             same("small(" + way + ", " + a + ", " + b + ")", () -> signals.small(way, a, b), () -> model.small(way, a, b));
         } else {
             int number = any();
@@ -81,47 +156,44 @@ public final class LongRunsTest {
         }
     }
 
-    private void filterCall(int kind) {
-        int k = index(kind == 5 ? 16 : 5);
+    private void filterCall(Kind kind) {
+        int k = index(kind == Kind.TAP ? 16 : 5);
         int stage = index(4);
         int value = shortOne();
-        if (kind == 5) {
-            same("tap(" + k + ", " + value + ")",
+        switch (kind) {
+            case TAP -> same("tap(" + k + ", " + value + ")",
                 () -> { signals.tap(k, value); return 0; }, () -> { model.tap(k, value); return 0; });
-        } else if (kind == 6) {
-            same("stage(" + stage + ", " + k + ", " + value + ")",
+            case STAGE -> same("stage(" + stage + ", " + k + ", " + value + ")",
                 () -> { signals.stage(stage, k, value); return 0; }, () -> { model.stage(stage, k, value); return 0; });
-        } else if (kind == 7 && numbers.nextInt(15) == 0) {
-            signals.calm();
-            model.calm();
-        } else if (kind == 7) {
-            same("filter(" + value + ")", () -> signals.filter(value), () -> model.filter(value));
-        } else {
-            same("chain(" + value + ")", () -> signals.chain(value), () -> model.chain(value));
+            case FILTER -> same("filter(" + value + ")", () -> signals.filter(value), () -> model.filter(value));
+            case CHAIN -> same("chain(" + value + ")", () -> signals.chain(value), () -> model.chain(value));
+            default -> same("calm()", () -> { signals.calm(); return 0; }, () -> { model.calm(); return 0; });
         }
     }
 
-    private void blockOrAngleCall(int kind) {
-        int place = index(32);
-        int a = any();
-        int b = any();
-        int m = index(6);
-        boolean flag = numbers.nextBoolean();
+    private void putAndModel(int place, int re, int im) {
+        same("put(" + place + ", " + re + ", " + im + ")",
+            () -> { signals.put(place, re, im); return 0; }, () -> { model.put(place, re, im); return 0; });
+    }
+
+    private void transformAndModel(int m, boolean back) {
+        same("transform(" + m + ", " + back + ")", () -> signals.transform(m, back), () -> model.transform(m, back));
+    }
+
+    private void getAndModel(int place, boolean second) {
+        same("get(" + place + ", " + second + ")", () -> signals.get(place, second), () -> model.get(place, second));
+    }
+
+    private void angleCall(Kind kind) {
+        int angle = any();
+        boolean cosine = numbers.nextBoolean();
         int x = coordinate();
         int y = coordinate();
-        if (kind == 9) {
-            same("put(" + place + ", " + a + ", " + b + ")",
-                () -> { signals.put(place, a, b); return 0; }, () -> { model.put(place, a, b); return 0; });
-        } else if (kind == 10) {
-            same("transform(" + m + ", " + flag + ")", () -> signals.transform(m, flag), () -> model.transform(m, flag));
-        } else if (kind == 11) {
-            same("get(" + place + ", " + flag + ")", () -> signals.get(place, flag), () -> model.get(place, flag));
-        } else if (kind == 12) {
-            same("wave(" + a + ", " + flag + ")", () -> signals.wave(a, flag), () -> model.wave(a, flag));
-        } else if (kind == 13) {
-            same("angle(" + x + ", " + y + ")", () -> signals.angle(x, y), () -> model.angle(x, y));
-        } else {
-            same("length(" + x + ", " + y + ")", () -> signals.length(x, y), () -> model.length(x, y));
+        switch (kind) {
+            case WAVE -> same("wave(" + angle + ", " + cosine + ")",
+                () -> signals.wave(angle, cosine), () -> model.wave(angle, cosine));
+            case ANGLE -> same("angle(" + x + ", " + y + ")", () -> signals.angle(x, y), () -> model.angle(x, y));
+            default -> same("length(" + x + ", " + y + ")", () -> signals.length(x, y), () -> model.length(x, y));
         }
     }
 }
